@@ -377,19 +377,21 @@ public final class PermitSets {
 
         boolean permits, safe;
         int atoms;
+        /** The bits of a request's number that stand for those of n, b and c that the policy names. */
+        int looksAt;
         /** ANY, or a number of one, or EACH more than the number of a group or folder. */
         int person, deed, thing;
         /** Each step comes from a byte of its own (UNLESS, with two, has three), so these rows do. */
-        private final int[] kinds = new int[TEXT_LIMIT], withs = new int[TEXT_LIMIT];
-        private int steps;
+        final int[] kinds = new int[TEXT_LIMIT], withs = new int[TEXT_LIMIT];
+        int steps;
         /** The requests to which it applies, and for which it errs, as the world was at surveyedAt. */
         final int[] applying = new int[WORDS], erring = new int[WORDS];
         int surveyedAt;
 
         void begin() {
             steps = 0;
-            atoms = 0;
             safe = true;
+            looksAt = 0;
             surveyedAt = NONE;
         }
 
@@ -398,6 +400,7 @@ public final class PermitSets {
                 kinds[steps] = kind;
                 withs[steps] = with;
                 steps++;
+                looksAt |= bitsOf(kind);
             }
         }
 
@@ -408,16 +411,13 @@ public final class PermitSets {
             }
         }
 
-        int stepCount() {
-            return steps;
-        }
-
-        int kindOf(int step) {
-            return kinds[step];
-        }
-
-        int withOf(int step) {
-            return withs[step];
+        private static int bitsOf(int atom) {
+            switch (atom) {
+                case 'n': return 7 << 2;
+                case 'b': return 2;
+                case 'c': return 1;
+                default: return 0;
+            }
         }
     }
 
@@ -457,14 +457,20 @@ public final class PermitSets {
             }
         }
 
-        /** Conditions never look at the deed, so one reckoning serves all deeds. */
+        /** Conditions never look at the deed, and seldom at all of n, b, c: one reckoning serves many. */
         private void surveyPair(Policy policy, int person, int thing) {
             int applying = 0;
             int erring = 0;
             for (int bit = 0; bit < BITS; bit++) {
-                int verdict = conditions(policy, person * 512 + thing * BITS + bit);
-                applying |= verdict == APPLIES ? 1 << bit : 0;
-                erring |= verdict == ERRS ? 1 << bit : 0;
+                int alike = bit & policy.looksAt;
+                if (alike == bit) {
+                    int verdict = conditions(policy, person * 512 + thing * BITS + bit);
+                    applying |= verdict == APPLIES ? 1 << bit : 0;
+                    erring |= verdict == ERRS ? 1 << bit : 0;
+                } else {
+                    applying |= hasBit(applying, alike) ? 1 << bit : 0;
+                    erring |= hasBit(erring, alike) ? 1 << bit : 0;
+                }
             }
             for (int deed = 0; deed < EACH; deed++) {
                 if (isInScope(policy.deed, deed, 0)) {
@@ -490,12 +496,12 @@ public final class PermitSets {
         private int conditions(Policy policy, int request) {
             top = 0;
             resume = 0;
-            for (int step = 0; step < policy.stepCount(); step++) {
+            for (int step = 0; step < policy.steps; step++) {
                 if (step < resume) {
                     continue;
                 }
-                int kind = policy.kindOf(step);
-                int with = policy.withOf(step);
+                int kind = policy.kinds[step];
+                int with = policy.withs[step];
                 switch (kind) {
                     case '&': case '|': case '[': case ':':
                         branch(kind, with);
@@ -943,7 +949,7 @@ public final class PermitSets {
         private int branchAt(int sign, int kind) {
             take(sign);
             step(kind, 0);
-            return policy.stepCount() - 1;
+            return policy.steps - 1;
         }
 
         private void lookAt(int type, int wanted, int start) {
@@ -952,11 +958,9 @@ public final class PermitSets {
             }
         }
 
-        /** A part has not ended where bytes are missing; then that is what it is refused for. */
+        /** Where bytes are missing a part has not ended: then that is what will be refused. */
         private void lookAtEnded(int type, int wanted, int start) {
-            if (place >= length) {
-                refuseByte();
-            } else {
+            if (place < length) {
                 lookAt(type, wanted, start);
             }
         }

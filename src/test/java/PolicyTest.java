@@ -150,6 +150,14 @@ public final class PolicyTest {
         applies("+***?{c#b};", 1024);
         applies("+***?{!b};", 1024);
         applies("+***?{!b=c};", 1024);
+        applies("+***?{!(n<3)};", 2048 * 5 / 8);
+        applies("+***?{!!(n<3)};", 2048 * 3 / 8);
+        applies("+***?{!(n<3)=b&!c};", 512);
+        applies("+***?{(n<3)=T};", 2048 * 3 / 8);
+        applies("+***?{(n<3)#T};", 2048 * 5 / 8);
+        applies("+***?{o=T};", 512);
+        applies("+***?{(n=n)=(1#2)};", 2048);
+        applies("+***?{b=T&c=T};", 512);
         applies("+***?{!(b=T)&c};", 512);
         applies("+***?{T|T&F};", 2048);
         applies("+***?{(T|T)&F};", 0);
@@ -175,7 +183,7 @@ public final class PolicyTest {
 
     private static void world() {
         PermitSets x = Check.with("+***?{g3};", "+***?{f3};", "+***?{o};", "+***?{l=6};", "+***?{h1};",
-                "+***?{h1&m1+l=9};");
+                "+***?{h1&m1+l=9};", "+***?{h1=T};", "+***?{g3=T&f3=T};");
         x.join(0, 1, 2);
         x.join(1, 2, 3);
         x.join(2, 0, 3);
@@ -184,14 +192,14 @@ public final class PolicyTest {
         x.thing(2, 6, 3);
         x.mark(2, 1, 3);
         x.mark(0, 1, 0);
-        int[] due = {512, 512, 512, 1024, 1024, 256};
+        int[] due = {512, 512, 512, 1024, 1024, 256, 1024, 128};
         for (int i = 0; i < due.length; i++) {
             check.same("policy " + i, x.policy(0, i, 3), due[i]);
         }
-        check.same("person 2, thing 1", x.ask(0, Check.request(2, 0, 1, 0, 0, 0), 1), 8 + 16 + 32);
+        check.same("person 2, thing 1", x.ask(0, Check.request(2, 0, 1, 0, 0, 0), 1), 8 + 16 + 32 + 64);
         check.same("person 3, thing 1", x.ask(0, Check.request(3, 0, 1, 0, 0, 0), 1), 4 + 8);
-        check.same("person 1, thing 0", x.ask(0, Check.request(1, 0, 0, 0, 0, 0), 1), 1 + 2);
-        check.same("person 0, thing 3", x.ask(0, Check.request(0, 0, 3, 0, 0, 0), 1), 4 + 16);
+        check.same("person 1, thing 0", x.ask(0, Check.request(1, 0, 0, 0, 0, 0), 1), 1 + 2 + 128);
+        check.same("person 0, thing 3", x.ask(0, Check.request(0, 0, 3, 0, 0, 0), 1), 4 + 16 + 64);
     }
 
     private static void errors() {

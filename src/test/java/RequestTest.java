@@ -124,6 +124,12 @@ public final class RequestTest {
         for (int k : WRONG) {
             check.same("compare k = " + k, x.compare(k), PermitSets.BAD);
         }
+        x = Check.with("+000?{n=1};");
+        comparing(x, 4, 0, 4);
+        Check.add(x, 1, "+000?{n=1};");
+        comparing(x, 0, 0, -1);
+        Check.add(x, 1, "+000?{n=0}!{b|c};");
+        comparing(x, 0, 1, 0);
     }
 
     private static void comparing(PermitSets x, int onlyFirst, int onlySecond, int place) {
@@ -140,6 +146,7 @@ public final class RequestTest {
         needless("10", "+1**;", "+***;");
         needless("01", "+***;", "-@0**;");
         needless("00", "+***;", "-333?{n=7&b&c};");
+        needless("00", "+***;", "-000?{n=0}!{b|c};");
         needless("10", "+***;", "-***;");
         needless("101", "-***?{b};", "+***!{b};", "-0**?{b&c};");
         needless("1", "+***?{m0=0};");

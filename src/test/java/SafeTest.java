@@ -27,6 +27,7 @@ public final class SafeTest {
         safe("+***?{h0&h1}?{m1<m0};");
         unsafe("+***?{h0&h1}?{m1<m2};");
         unsafe("+***?{h0}?{m0<4}?{m1<4};");
+        unsafe("+***?{m0<4}?{h0}?{m0<4};");
         safe("-@0*@1?{h3}?{m3=m3};");
     }
 

@@ -347,8 +347,8 @@ public final class PermitSets {
                 case 'n': return request >> 2 & 7;
                 case 'b': return request >> 1 & 1;
                 case 'c': return request & 1;
-                case 'g': return groupsOf(person) >> with & 1;
-                case 'f': return foldersOf(thing) >> with & 1;
+                case 'g': return persons.holdersOf(person) >> with & 1;
+                case 'f': return things.holdersOf(thing) >> with & 1;
                 case 'h': return marks[person * EACH + with] == NONE ? 0 : 1;
                 case 'm': return marks[person * EACH + with];
                 case 'o': return owners[thing] == person ? 1 : 0;
@@ -368,9 +368,9 @@ public final class PermitSets {
 
     /**
      * A policy as it was read: its scopes and, for its conditions, a row of steps, reckoned on a pile
-     * of values. A step bears the byte that it stands for: an atom puts its value on the pile (a
-     * digit, T and F are the step '0' with that value); ! + - < = # take values and put one; & | [ :
-     * may leave out the steps up to one behind them; ? ends a condition, which holds if true.
+     * of values. A step bears the byte that it stands for: an atom puts its value on the pile; the
+     * signs ! + - < = # take values and put one; & | [ : may leave out the steps up to one behind
+     * them; ? ends a condition, and the policy fails if the value is false.
      */
     private static final class Policy {
         static final int ANY = -1;
@@ -738,11 +738,11 @@ public final class PermitSets {
                 lookAtEnded(type, TRUTH, start);
                 take('}');
                 if (unless) {
-                    step('!', 0);
+                    policy.append('!', 0);
                 } else {
                     known |= proved;
                 }
-                step('?', 0);
+                policy.append('?', 0);
             }
         }
 
@@ -794,7 +794,7 @@ public final class PermitSets {
             int side = place;
             int right = sum(depth, known);
             lookAtEnded(right, left, side);
-            step(sign, 0);
+            policy.append(sign, 0);
             proved = 0;
             return TRUTH;
         }
@@ -809,7 +809,7 @@ public final class PermitSets {
                 int side = place;
                 type = term(depth, known);
                 lookAt(type, NUMBER, side);
-                step(sign, 0);
+                policy.append(sign, 0);
                 proved = 0;
             }
             return type;
@@ -836,7 +836,7 @@ public final class PermitSets {
             int start = place;
             int type = term(depth, known);
             lookAt(type, TRUTH, start);
-            step('!', 0);
+            policy.append('!', 0);
             proved = 0;
             return TRUTH;
         }
@@ -868,49 +868,47 @@ public final class PermitSets {
 
         private int atom(int known) {
             int sign = next();
+            int type = typeOf(sign);
             proved = 0;
-            if (!startsAtom(sign) || atoms == ATOM_LIMIT) {
+            if (type == NONE || atoms == ATOM_LIMIT) {
                 refuseByte();
                 return NUMBER;
             }
             place++;
             atoms++;
-            switch (sign) {
-                case 'T': return constant(1, TRUTH);
-                case 'F': return constant(0, TRUTH);
-                case 'g': case 'f': case 'h': case 'm': return numbered(sign, known);
-                case 'b': case 'c': case 'o': step(sign, 0); return TRUTH;
-                case 'n': case 'l': step(sign, 0); return NUMBER;
-                default: return constant(sign - '0', NUMBER);
+            int with = isNumbered(sign) ? digit() : constantOf(sign);
+            policy.append(sign, with);
+            if (sign == 'h') {
+                proved = 1 << with;
             }
-        }
-
-        private int constant(int value, int type) {
-            step('0', value);
+            if (sign == 'm' && !hasBit(known, with)) {
+                policy.safe = false;
+            }
             return type;
         }
 
-        private int numbered(int sign, int known) {
-            int which = digit();
-            step(sign, which);
-            if (sign == 'h') {
-                proved = 1 << which;
+        /** An atom's type, by its first byte; NONE where that starts no atom. */
+        private static int typeOf(int sign) {
+            switch (sign) {
+                case 'T': case 'F': case 'b': case 'c': case 'o': case 'g': case 'f': case 'h':
+                    return TRUTH;
+                case 'n': case 'l': case 'm':
+                    return NUMBER;
+                default:
+                    return sign >= '0' && sign <= '9' ? NUMBER : NONE;
             }
-            if (sign != 'm') {
-                return TRUTH;
-            }
-            policy.safe &= hasBit(known, which);
-            return NUMBER;
         }
 
-        private static boolean startsAtom(int sign) {
-            switch (sign) {
-                case 'T': case 'F': case 'n': case 'b': case 'c': case 'o': case 'l':
-                case 'g': case 'f': case 'h': case 'm':
-                    return true;
-                default:
-                    return sign >= '0' && sign <= '9';
+        private static boolean isNumbered(int sign) {
+            return sign == 'g' || sign == 'f' || sign == 'h' || sign == 'm';
+        }
+
+        /** What T, F and digits stand for; of no use to other atoms. */
+        private static int constantOf(int sign) {
+            if (sign == 'T') {
+                return 1;
             }
+            return sign >= '0' && sign <= '9' ? sign - '0' : 0;
         }
 
         private int digit() {
@@ -936,25 +934,19 @@ public final class PermitSets {
             }
         }
 
-        private void step(int kind, int with) {
-            if (refusal == 0) {
-                policy.append(kind, with);
-            }
-        }
-
         private int branch(int sign) {
             return branchAt(sign, sign);
         }
 
         private int branchAt(int sign, int kind) {
             take(sign);
-            step(kind, 0);
+            policy.append(kind, 0);
             return policy.steps - 1;
         }
 
         private void lookAt(int type, int wanted, int start) {
-            if (type != wanted) {
-                refuse(-1000 - start);
+            if (type != wanted && refusal == 0) {
+                refusal = -1000 - start;
             }
         }
 
@@ -967,12 +959,8 @@ public final class PermitSets {
 
         /** Behind the last byte this says that bytes are missing: the place is their number there. */
         private void refuseByte() {
-            refuse(-10 - place);
-        }
-
-        private void refuse(int why) {
             if (refusal == 0) {
-                refusal = why;
+                refusal = -10 - place;
             }
         }
     }

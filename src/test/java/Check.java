@@ -2,12 +2,26 @@
 final class Check {
     private int looked = 0;
     private int wrong = 0;
+    private String sentence = "";
+
+    /** Names the document's sentence that the answers from here on are held to. */
+    void sentence(String words) {
+        sentence = words + " -- ";
+    }
 
     void same(String call, long got, long due) {
         looked++;
         if (got != due) {
             wrong++;
-            System.out.println(call + " answered " + got + ", due is " + due);
+            System.out.println(sentence + call + " answered " + got + ", due is " + due);
+        }
+    }
+
+    void same(String call, String got, String due) {
+        looked++;
+        if (!got.equals(due)) {
+            wrong++;
+            System.out.println(sentence + call + " answered\n  " + got + ", due is\n  " + due);
         }
     }
 
@@ -29,6 +43,11 @@ final class Check {
     /** Makes a text the object's text. */
     static void write(PermitSets x, String text) {
         x.wipe();
+        append(x, text);
+    }
+
+    /** Puts a text behind the object's text. */
+    static void append(PermitSets x, String text) {
         for (int from = 0; from < text.length(); from += 8) {
             int n = Math.min(8, text.length() - from);
             long bytes = 0;

@@ -17,6 +17,7 @@ public final class RequestBoundaryTest {
         askNoSuchRequest();
         askNoSuchWhat();
         askIsOfNow();
+        changesInAnyOrder();
         allowsHowMany();
         allowsNone();
         allowsNoSuch();
@@ -190,6 +191,35 @@ public final class RequestBoundaryTest {
         check.same("the mark again", x.policy(0, 0, 3), 128);
         x.leave(3, 2, 3);
         check.same("out of folder 3", x.compare(0), 0);
+    }
+
+    private static void changesInAnyOrder() {
+        check.sentence("Promise 13 to 16: of the world as it is then, whatever changed in between");
+        for (int order = 0; order < 512; order++) {
+            PermitSets asked = Check.with("+***?{h0|g0|f0|l=1|o};");
+            PermitSets notAsked = Check.with("+***?{h0|g0|f0|l=1|o};");
+            for (int rest = order; rest > 0; rest /= 8) {
+                asked.allows(0, 0);
+                change(asked, rest % 8);
+                change(asked, rest / 8 % 8);
+                change(notAsked, rest % 8);
+                change(notAsked, rest / 8 % 8);
+            }
+            check.same("allows after the changes " + order, asked.allows(0, 0), notAsked.allows(0, 0));
+        }
+    }
+
+    private static void change(PermitSets x, int which) {
+        switch (which) {
+            case 0: x.mark(1, 0, 1); break;
+            case 1: x.mark(1, 0, -1); break;
+            case 2: x.join(0, 2, 0); break;
+            case 3: x.leave(0, 2, 0); break;
+            case 4: x.join(2, 1, 0); break;
+            case 5: x.leave(2, 1, 0); break;
+            case 6: x.thing(2, 1, 0); break;
+            default: x.thing(2, 0, 3);
+        }
     }
 
     private static void allowsHowMany() {

@@ -188,25 +188,23 @@ public final class LanguageTest {
         check.sentence("12: What a run makes is counted: keep it small");
         com.sun.management.ThreadMXBean threads = (com.sun.management.ThreadMXBean) ManagementFactory.getThreadMXBean();
         PermitSets x = new PermitSets();
-        Check.add(x, 0, "+@1*@2?{[h0:m0:l]+n<7|b&!(c#o)}!{f1&g2}?{h3}?{m3=m3};");
-        every(x);
+        check.same("add", every(x), 0);
         long before = threads.getCurrentThreadAllocatedBytes();
         for (int i = 0; i < 100; i++) {
             every(x);
         }
         long made = threads.getCurrentThreadAllocatedBytes() - before;
-        check.yes("bytes that 1800 calls made: " + made, made < 1800);
+        check.yes("bytes that 2400 calls made: " + made, made < 2400);
     }
 
-    /** Each call once; the text stays what it was. */
-    private static void every(PermitSets x) {
+    /** Each call at least once, 24 in all; writing makes no object by itself. */
+    private static int every(PermitSets x) {
         x.join(1, 2, 3);
         x.join(0, 1, 2);
         x.mark(1, 0, 3);
         x.thing(3, 6, 1);
         x.isIn(0, 1, 3);
-        x.put(0x3b2a2a2a2bL, 0);
-        x.add(1);
+        int number = Check.add(x, 1, "+@3**?{[h0:m0:l]+n<7|b&!(c#o)}!{f1&g2}?{h3};");
         x.size(1);
         x.policy(1, 0, 2);
         x.policy(1, 0, 3);
@@ -218,6 +216,7 @@ public final class LanguageTest {
         x.needless(1, 0);
         x.drop(1, 0);
         x.leave(0, 1, 2);
+        return number;
     }
 
     private static void anyCall(PermitSets x, Random random) {

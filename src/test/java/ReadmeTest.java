@@ -10,7 +10,6 @@ import java.util.ArrayList;
 import java.util.List;
 import java.util.regex.Matcher;
 import java.util.regex.Pattern;
-import javax.tools.ToolProvider;
 
 /**
  * README.md: its pieces of Java are compiled and run as they stand there, and each call must answer
@@ -50,8 +49,8 @@ public final class ReadmeTest {
         Path folder = Files.createTempDirectory("readme");
         Path source = folder.resolve("ReadmeCalls.java");
         Files.writeString(source, program(pieces));
-        int errors = ToolProvider.getSystemJavaCompiler().run(null, null, null,
-                "-cp", System.getProperty("java.class.path"), "-d", folder.toString(), source.toString());
+        int errors = new ProcessBuilder("javac", "-encoding", "UTF-8", "-cp", System.getProperty("java.class.path"),
+                "-d", folder.toString(), source.toString()).inheritIO().start().waitFor();
         check.same("compiling what README.md shows", errors, 0);
         if (errors == 0) {
             List<String> answers = new ArrayList<>();
